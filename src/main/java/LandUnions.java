@@ -13,6 +13,8 @@ public final class LandUnions {
 
     private static final int WISH = 0, COST = 1, GAIN = 2, TOLL = 3;
     private static final int LEAST_COST = 1, MOST_COST = 99;
+    /** The greatest cost, gain and wall together come to 179. */
+    private static final int ABOVE_ALL_PRICES = 1000;
     private static final int JOIN = 1, CORE = 2, RESTS = 3;
 
     /** Where a land goes, if not to a union that is there. */
@@ -733,7 +735,7 @@ public final class LandUnions {
 
         private void buy(Lands lands, Parting p, int land) {
             int cheapest = land;
-            int least = Integer.MAX_VALUE;
+            int least = ABOVE_ALL_PRICES;
             for (int l = 0; l < lands.count; l++) {
                 int asked = lands.cost[l] + lands.gain[l];
                 if (p.row[l] != p.row[land]) {

@@ -19,7 +19,7 @@ public final class LandUnionsFace {
   private static final String[] CONSTANTS = {"UNKNOWN", "OUTSIDE", "STATE", "FULL", "NO", "NONE", "LOST"};
   private static final String[] FORBIDDEN = {
     "\\bthrow\\b", "\\btry\\b", "\\bcatch\\b", "\\bsynchronized\\b", "\\bassert\\b", "\\bimport\\b", "->", "::", "\\bSystem\\b(?!\\.arraycopy)",
-    "\\bprotected\\b", "\\bnew\\s+\\w+\\s*\\([^)]*\\)\\s*\\{", "Exact\\b", "\\bThread\\b", "\\bRandom\\b", "static\\s*\\{"
+    "\\bprotected\\b", "\\bnew\\s+\\w+\\s*\\([^)]*\\)\\s*\\{", "Exact\\b", "\\b(Integer|Long|Math)\\.[A-Z]", "\\bThread\\b", "\\bRandom\\b", "static\\s*\\{"
   };
 
   private static int wrong = 0;

@@ -279,6 +279,7 @@ public final class LandUnionsOracle {
     }
     if (ring != 0) kinds.merge("go in a ring", 1, Integer::sum);
     if (ring == 0 && goings > 3) kinds.merge("go over more than 3", 1, Integer::sum);
+    if (ring > 0 && goings == ring) kinds.merge("go in a ring at once", 1, Integer::sum);
     if (ring > 0 && goings > ring) kinds.merge("go to a ring farther on", 1, Integer::sum);
     if (what == 0) return goings;
     if (what == 1) return ring;
@@ -464,10 +465,31 @@ public final class LandUnionsOracle {
         y.land(ring[k], ring[k + 1], ring[k + 2], ring[k + 3]);
       }
       for (int k = 0; k < 2; k++) { x.set(k, ring[k]); y.set(k, ring[k]); }
+      goFromAll(x, y);
+      partInto(x, y);
+      goFromAll(x, y);
+    }
+  }
+
+  private static void goFromAll(LandUnions x, LandUnionsOracle y) {
+    for (int l = 0; l < y.lands.size(); l++) {
+      for (int w : new int[] {0, 1, 10, 11, 12, 13, 14, 15}) due("ring of " + y.lands.size(), "go(" + l + ", " + w + ")", x.go(l, w), y.go(l, w));
+    }
+  }
+
+  /** THE PARTING becomes that in which GO from land 0 on ends: one of the ring. */
+  private static void partInto(LandUnions x, LandUnionsOracle y) {
+    StringBuilder text = new StringBuilder();
+    for (int u = 0; u < y.lands.size(); u++) {
       for (int l = 0; l < y.lands.size(); l++) {
-        for (int w : new int[] {0, 1, 10, 11, 12, 13, 14, 15}) due("ring of " + y.lands.size(), "go(" + l + ", " + w + ")", x.go(l, w), y.go(l, w));
+        if (y.go(0, 10 + l) == u) {
+          if (text.indexOf("" + u) < 0) text.append(text.length() == 0 ? "" : "|").append(u);
+          text.append((char) ('a' + l));
+        }
       }
     }
+    for (char c : text.toString().replaceAll("[0-9]", "").toCharArray()) { x.say(c); y.say(c); }
+    due("a ring", "part()", x.part(), y.part());
   }
 
   public static void main(String[] args) {
@@ -484,7 +506,7 @@ public final class LandUnionsOracle {
       for (int k = 0; k < 60; k++) ask(run, r, x, y);
     }
     if (args.length > 0) new java.util.TreeMap<>(kinds).forEach((k, v) -> System.out.println(k + ": " + v));
-    for (String kind : new String[] {"go in a ring", "go over more than 3", "go to a ring farther on", "part NO", "say FULL", "land FULL", "edge NONE", "propose NONE", "rests NONE", "enter LOST"}) {
+    for (String kind : new String[] {"go in a ring", "go in a ring at once", "go over more than 3", "go to a ring farther on", "part NO", "say FULL", "land FULL", "edge NONE", "propose NONE", "rests NONE", "enter LOST"}) {
       if (args.length == 0 && !kinds.containsKey(kind)) { wrong++; System.out.println("the runs never came to: " + kind); }
     }
     System.out.println(wrong == 0 ? "all answers are as due" : wrong + " answers are not as due");

@@ -501,6 +501,19 @@ public final class LandUnionsPromises {
     due("edge(0) the other way", x.edge(0), 6);
     due("edge(3)", x.edge(3), UNKNOWN);
     due("edge(-1)", x.edge(-1), UNKNOWN);
+    // both at a price of 7, sold by a: b has 53 x 53 and would have 53 x 57; 2 less or more turns it
+    LandUnions twins = world(70, 5, 2, 7, 60, 5, 2, 4);
+    parted(twins, "ab");
+    due("breaks(0) of twins", twins.breaks(0), 1);
+    due("edge(0): 3 and 7 are as near", twins.edge(0), 3);
+    due("edge(1): 3 and 7 are as near", twins.edge(1), 3);
+    // a leaves to buy of c without a toll, be it one alone, till c costs as much as a wishes
+    LandUnions far = world(99, 99, 0, 0, 1, 99, 0, 10, 1, 1, 0, 0);
+    far.set(0, 1);
+    parted(far, "ab|c");
+    due("edge(2): from 1 to 99", far.edge(2), 99);
+    due("change(2, 1, 99)", far.change(2, 1, 99), 1);
+    due("edge(2): back", far.edge(2), 98);
     LandUnions alone = world(50, 20, 3, 9);
     due("edge(0) of one alone", alone.edge(0), NONE);
   }
