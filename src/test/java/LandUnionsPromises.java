@@ -1,4 +1,4 @@
-/** For each promise calls whose answers were reckoned by hand from the document. */
+/** For each promise calls whose answers were reckoned by hand from the document, but for the ring. */
 public final class LandUnionsPromises {
   private static final int UNKNOWN = -1, OUTSIDE = -2, FULL = -4, NO = -5, NONE = -6, LOST = -1000000000;
   private static final int MIN = Integer.MIN_VALUE, MAX = Integer.MAX_VALUE;
