@@ -208,7 +208,7 @@ public final class LandUnions {
         if (i != -1 && !isLand(land)) {
             return UNKNOWN;
         }
-        if (!isRest(rest) || i < -1) {
+        if (!isRest(rest)) {
             return OUTSIDE;
         }
         int found = 0;

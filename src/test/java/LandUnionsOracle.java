@@ -245,11 +245,11 @@ public final class LandUnionsOracle {
 
   int rests(int rest, int i, int l) {
     if (i != -1 && !isLand(l)) return UNKNOWN;
-    if (rest < 0 || rest > 2 || i < -1) return OUTSIDE;
+    if (rest < 0 || rest > 2) return OUTSIDE;
     List<List<TreeSet<Integer>>> quiet = new ArrayList<>();
     for (List<TreeSet<Integer>> p : partings()) if (breaker(rest, p) == NONE) quiet.add(p);
     if (i == -1) return quiet.size();
-    return i < quiet.size() ? unionOf(quiet.get(i), l) : NONE;
+    return i >= 0 && i < quiet.size() ? unionOf(quiet.get(i), l) : NONE;
   }
 
   int go(int start, int what) {

@@ -320,7 +320,14 @@ public final class LandUnionsPromises {
     due("rests(0, 1, 1)", x.rests(0, 1, 1), 1);
     due("rests(0, 2, 1)", x.rests(0, 2, 1), NONE);
     due("rests(0, MAX, 1)", x.rests(0, MAX, 1), NONE);
-    due("rests(0, -2, 1)", x.rests(0, -2, 1), OUTSIDE);
+    for (int rest = 0; rest < 3; rest++) {
+      due("rests(" + rest + ", -2, 1)", x.rests(rest, -2, 1), NONE);
+      due("rests(" + rest + ", -7, 0)", x.rests(rest, -7, 0), NONE);
+      due("rests(" + rest + ", MIN, 0)", x.rests(rest, MIN, 0), NONE);
+    }
+    due("rests(3, -2, 1)", x.rests(3, -2, 1), OUTSIDE);
+    due("rests(-1, MIN, 1)", x.rests(-1, MIN, 1), OUTSIDE);
+    due("rests(0, MIN, 2)", x.rests(0, MIN, 2), UNKNOWN);
     due("rests(3, 0, 1)", x.rests(3, 0, 1), OUTSIDE);
     due("rests(-1, -1, 1)", x.rests(-1, -1, 1), OUTSIDE);
     due("rests(3, -1, 9)", x.rests(3, -1, 9), OUTSIDE);
