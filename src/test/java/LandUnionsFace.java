@@ -5,6 +5,7 @@ import java.lang.reflect.Method;
 import java.lang.reflect.Modifier;
 import java.nio.file.Files;
 import java.nio.file.Path;
+import java.util.Random;
 import java.util.TreeSet;
 import java.util.regex.Matcher;
 import java.util.regex.Pattern;
@@ -120,10 +121,59 @@ public final class LandUnionsFace {
     check(made < 32768, "a new object takes " + made + " bytes");
   }
 
+  private static final int[] ODD = {Integer.MIN_VALUE, Integer.MAX_VALUE, -1000000000, -7, -6, -2, -1, 100, 127, 128, 203, 255, 256, 65536};
+
+  private static int any(Random r) {
+    int k = r.nextInt(20);
+    return k == 0 ? ODD[r.nextInt(ODD.length)] : k < 14 ? r.nextInt(7) : k < 18 ? r.nextInt(25) : r.nextInt(130);
+  }
+
+  private static void anyCall(LandUnions x, Random r) {
+    switch (r.nextInt(23)) {
+      case 0: x.land(any(r), any(r), any(r), any(r)); break;
+      case 1: x.change(any(r), any(r), any(r)); break;
+      case 2: x.set(any(r), any(r)); break;
+      case 3: x.say(any(r)); break;
+      case 4: for (int k = 0; k < 6; k++) x.say("abcdef|||".charAt(r.nextInt(9))); break;
+      case 5: if (r.nextInt(4) == 0) x.wipe(); break;
+      case 6: x.fault(); break;
+      case 7: x.part(); break;
+      case 8: x.union(any(r)); break;
+      case 9: x.of(any(r), any(r)); break;
+      case 10: x.all(any(r)); break;
+      case 11: x.breaks(any(r)); break;
+      case 12: x.rests(any(r), any(r), any(r)); break;
+      case 13: x.go(any(r), any(r)); break;
+      case 14: x.whole(any(r)); break;
+      case 15: x.rules(); break;
+      case 16: x.propose(any(r), any(r)); break;
+      case 17: x.enter(any(r), any(r), any(r)); break;
+      case 18: x.holds(); break;
+      case 19: x.hurt(any(r)); break;
+      case 20: x.edge(any(r)); break;
+      case 21: x.told(any(r)); break;
+      default: x.change(r.nextInt(6), r.nextInt(4), 1 + r.nextInt(20));
+    }
+  }
+
+  /** No call throws, for whatever numbers in whatever state, behind the 512th call too. */
+  private static void throwsNothing() {
+    for (int seed = 0; seed < 60; seed++) {
+      Random r = new Random(seed);
+      LandUnions x = new LandUnions();
+      try {
+        for (int k = 0; k < 2000; k++) anyCall(x, r);
+      } catch (RuntimeException thrown) {
+        check(false, "seed " + seed + ": a call threw " + thrown);
+      }
+    }
+  }
+
   public static void main(String[] args) throws java.io.IOException {
     face();
     language();
     room();
+    throwsNothing();
     System.out.println(wrong == 0 ? "the face, the language and the room are as due" : wrong + " are not as due");
     if (wrong != 0) System.exit(1);
   }
