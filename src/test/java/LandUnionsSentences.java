@@ -5,7 +5,7 @@ import java.util.List;
 
 /**
  * Each sentence of the document that names a boundary case (too small, too large, empty, full, round from the
- * last to the first, a refused call) with a test of its own. Answers are reckoned by hand, but for the long way
+ * last to the first, a refused call) with a test of its own. Answers are reckoned by hand, but for the long ways
  * of promise 14. `java LandUnionsSentences ../shared/DOC.md` also looks whether the words stand in the document.
  */
 public final class LandUnionsSentences {
@@ -1102,11 +1102,12 @@ public final class LandUnionsSentences {
       due("row", goRow(in, 0), "011");
     });
     test(14, "500 goings at most.", () -> {
-      // found by trying millions; none went farther, so no test comes to the 500th going
-      LandUnions x = world(29, 24, 6, 17, 48, 2, 7, 2, 48, 23, 7, 6, 38, 14, 2, 2, 36, 1, 4, 1, 26, 18, 7, 24);
-      x.set(SHARES, 1);
-      due("go(0, 0)", x.go(0, 0), 42);
-      due("go(0, 1)", x.go(0, 1), 36);
+      // the longest ways that long seeking found (the second program of LandUnionsOracle goes them too): no test comes
+      // near the 500th going
+      LandUnions x = world(39, 1, 7, 38, 72, 80, 17, 11, 57, 14, 14, 36, 55, 66, 11, 46, 91, 65, 4, 1, 99, 17, 16, 3);
+      with(x, 0, 1, "ab|c|de|f");
+      due("go(3, 0)", x.go(3, 0), 67);
+      due("go(3, 1)", x.go(3, 1), 23);
       LandUnions y = world(55, 13, 16, 36, 47, 81, 14, 51, 98, 25, 18, 2, 22, 30, 15, 31, 79, 23, 10, 13, 96, 1, 12, 59);
       y.set(SHARES, 2);
       due("go(2, 0)", y.go(2, 0), 34);
